@@ -78,18 +78,14 @@ public final class ToldShields {
     }
 
     public int cell(int shield, int x, int y) throws IndexOutOfBoundsException, IllegalStateException {
-        refuseNoShield(shield);
         refuseNoPlace(x);
         refuseNoPlace(y);
-        refuseUnread(shield);
-        return shields[shield].picture[y * SIDE + x];
+        return toldOf(shield).picture[y * SIDE + x];
     }
 
     public int row(int shield, int y, int tincture) throws IndexOutOfBoundsException, IllegalStateException {
-        refuseNoShield(shield);
         refuseNoPlace(y);
-        refuseUnread(shield);
-        int[] picture = shields[shield].picture;
+        int[] picture = toldOf(shield).picture;
         int sum = 0;
         for (int x = 0; x < SIDE; x++) {
             if (picture[y * SIDE + x] == tincture) {
@@ -100,9 +96,7 @@ public final class ToldShields {
     }
 
     public int cells(int shield, int tincture) throws IndexOutOfBoundsException, IllegalStateException {
-        refuseNoShield(shield);
-        refuseUnread(shield);
-        int[] picture = shields[shield].picture;
+        int[] picture = toldOf(shield).picture;
         int found = 0;
         for (int i = 0; i < picture.length; i++) {
             if (picture[i] == tincture) {
@@ -113,12 +107,11 @@ public final class ToldShields {
     }
 
     public int differ(int one, int other) throws IndexOutOfBoundsException, IllegalStateException {
+        // That there is no such shield wins over one that was not read, so both are looked at first.
         refuseNoShield(one);
         refuseNoShield(other);
-        refuseUnread(one);
-        refuseUnread(other);
-        int[] onePicture = shields[one].picture;
-        int[] otherPicture = shields[other].picture;
+        int[] onePicture = toldOf(one).picture;
+        int[] otherPicture = toldOf(other).picture;
         int found = 0;
         for (int i = 0; i < SIDE * SIDE; i++) {
             if (onePicture[i] != otherPicture[i]) {
@@ -129,15 +122,11 @@ public final class ToldShields {
     }
 
     public int breaches(int shield) throws IndexOutOfBoundsException, IllegalStateException {
-        refuseNoShield(shield);
-        refuseUnread(shield);
-        return shields[shield].breachCount;
+        return toldOf(shield).breachCount;
     }
 
     public int breach(int shield, int i) throws IndexOutOfBoundsException, IllegalStateException {
-        refuseNoShield(shield);
-        refuseUnread(shield);
-        Told told = shields[shield];
+        Told told = toldOf(shield);
         return i >= 0 && i < told.breachCount ? told.breachWords[i] : NONE;
     }
 
@@ -147,8 +136,7 @@ public final class ToldShields {
         if (what < 0 || what > 3) {
             throw new IllegalArgumentException("there is nothing such to count");
         }
-        refuseUnread(shield);
-        Told told = shields[shield];
+        Told told = toldOf(shield);
         switch (what) {
             case 0:
                 return told.shieldCount;
@@ -164,22 +152,16 @@ public final class ToldShields {
     public boolean same(int one, int other) throws IndexOutOfBoundsException, IllegalStateException {
         refuseNoShield(one);
         refuseNoShield(other);
-        refuseUnread(one);
-        refuseUnread(other);
-        return shields[one].hasWordsOf(shields[other]);
+        return toldOf(one).hasWordsOf(toldOf(other));
     }
 
     public int tell(int shield) throws IndexOutOfBoundsException, IllegalStateException {
-        refuseNoShield(shield);
-        refuseUnread(shield);
-        writePage(shields[shield], false);
+        writePage(toldOf(shield), false);
         return pageLength;
     }
 
     public int turned(int shield) throws IndexOutOfBoundsException, IllegalStateException {
-        refuseNoShield(shield);
-        refuseUnread(shield);
-        writePage(shields[shield], true);
+        writePage(toldOf(shield), true);
         return pageLength;
     }
 
@@ -203,10 +185,13 @@ public final class ToldShields {
         }
     }
 
-    private void refuseUnread(int shield) {
-        if (!shields[shield].isRead) {
+    private Told toldOf(int shield) {
+        refuseNoShield(shield);
+        Told told = shields[shield];
+        if (!told.isRead) {
             throw new IllegalStateException("the shield was not read");
         }
+        return told;
     }
 
     private void writePage(Told told, boolean isTurned) {
@@ -257,40 +242,44 @@ public final class ToldShields {
         ERMINE("ermine", TINCTURE, 7),
         VAIR("vair", TINCTURE, 8),
         COUNTERCHANGE("counterchanged", OTHER, COUNTERCHANGED),
-        PER("per", OTHER, 0),
-        QUARTERLY("quarterly", OTHER, 0),
-        AND("and", OTHER, 0),
-        OPEN("(", OTHER, 0),
-        CLOSE(")", OTHER, 0),
-        CHARGED("charged", OTHER, 0),
-        WITH("with", OTHER, 0),
-        CHIEF("chief", ORDINARY, 0),
-        FESS("fess", ORDINARY, 0),
-        PALE("pale", ORDINARY, 0),
-        BEND("bend", ORDINARY, 0),
-        CROSS("cross", ORDINARY, 0),
-        SALTIRE("saltire", ORDINARY, 0),
-        CHEVRON("chevron", ORDINARY, 0),
-        BORDURE("bordure", ORDINARY, 0),
+        PER("per", OTHER),
+        QUARTERLY("quarterly", OTHER),
+        AND("and", OTHER),
+        OPEN("(", OTHER),
+        CLOSE(")", OTHER),
+        CHARGED("charged", OTHER),
+        WITH("with", OTHER),
+        CHIEF("chief", ORDINARY),
+        FESS("fess", ORDINARY),
+        PALE("pale", ORDINARY),
+        BEND("bend", ORDINARY),
+        CROSS("cross", ORDINARY),
+        SALTIRE("saltire", ORDINARY),
+        CHEVRON("chevron", ORDINARY),
+        BORDURE("bordure", ORDINARY),
         A("a", NUMBER, 1),
         TWO("two", NUMBER, 2),
         THREE("three", NUMBER, 3),
         FOUR("four", NUMBER, 4),
         FIVE("five", NUMBER, 5),
         SIX("six", NUMBER, 6),
-        ROUNDEL("roundel", CHARGE, 0),
-        BILLET("billet", CHARGE, 0),
-        LOZENGE("lozenge", CHARGE, 0),
-        ROUNDELS("roundels", CHARGES, 0),
-        BILLETS("billets", CHARGES, 0),
-        LOZENGES("lozenges", CHARGES, 0),
+        ROUNDEL("roundel", CHARGE),
+        BILLET("billet", CHARGE),
+        LOZENGE("lozenge", CHARGE),
+        ROUNDELS("roundels", CHARGES),
+        BILLETS("billets", CHARGES),
+        LOZENGES("lozenges", CHARGES),
         // Stands for every word that no shield has, and for the end of the words.
-        UNKNOWN("", OTHER, 0);
+        UNKNOWN("", OTHER);
 
         final String spelling;
         final int kind;
         // Of a tincture or a coat its number, of a number word how many it tells.
         final int number;
+
+        Word(String spelling, int kind) {
+            this(spelling, kind, 0);
+        }
 
         Word(String spelling, int kind, int number) {
             this.spelling = spelling;
@@ -509,9 +498,6 @@ public final class ToldShields {
 
         /** Whether they have cell x, y, which may lie outside, of the box of w by h cells they stand in. */
         private boolean rowsCover(int x, int y, int w, int h, int rows) {
-            if (x < 0 || x >= w) {
-                return false;
-            }
             for (int r = 0; r < rows; r++) {
                 int top = r * h / rows;
                 int bottom = (r + 1) * h / rows;
@@ -678,8 +664,10 @@ public final class ToldShields {
         }
 
         private Shield readField(int depth) {
-            if (told.wordAt(at).kind == TINCTURE) {
-                Part plain = readPart(depth);
+            Word word = told.wordAt(at);
+            if (word.kind == TINCTURE) {
+                at++;
+                Part plain = new Plain(word.number);
                 return new Shield(null, plain, plain);
             }
             Word division = readDivision();

@@ -23,6 +23,7 @@ public final class PromiseTest {
         ordinaries();
         charges();
         chargedOrdinaries();
+        mostLayers();
         divisions();
         counterchanged();
         differ();
@@ -182,6 +183,8 @@ public final class PromiseTest {
         dueRead("or a fess or a fess or a fess or a fess or a fess or", -14);
         dueRead("or a fess or a fess or a fess or a fess or charged with a billet or", 18);
         dueRead("or a fess or a fess or a fess or a fess or charged with a billet or two", -19);
+        dueRead("per pale (or a fess or a fess or a fess or a fess or) and or", 19);
+        dueRead("per pale (or a fess or a fess or a fess or a fess or a fess or) and or", -17);
     }
 
     private static void readDepth() {
@@ -290,6 +293,11 @@ public final class PromiseTest {
                 new int[] {0, bits(10, 13), bits(10, 13), 0, 0, bits(10, 13), bits(10, 13), 0});
         dueRows("gules a pale or charged with two billets sable", 0, new int[] {0, 1},
                 new int[] {bits(8, 15), bits(8, 9) + bits(14, 15)});
+    }
+
+    private static void mostLayers() {
+        String charged = " a pale or charged with a billet or";
+        dueRows("vair" + charged + charged + charged + " a fess or", 0, new int[] {7, 8}, new int[] {bits(8, 15), ALL});
     }
 
     private static void divisions() {
@@ -457,6 +465,9 @@ public final class PromiseTest {
         due("fewer words", shields.same(1, 0), false);
         Due.read(shields, 0, "per pale or and vert a bend argent");
         due("another last word", shields.same(0, 1), false);
+        Due.read(shields, 0, "or");
+        Due.read(shields, 1, "or");
+        due("the same words where there were longer ones", shields.same(0, 1), true);
         ToldShields fresh = Due.told("or");
         dueTwoShields("same", fresh::same);
     }
@@ -478,12 +489,14 @@ public final class PromiseTest {
     }
 
     private static void turned() {
-        dueTold("argent a chief azure charged with two lozenges sable", "argent a chief azure charged with two lozenges sable",
+        dueTold("argent a chief azure charged with two lozenges sable",
+                "argent a chief azure charged with two lozenges sable",
                 "or a chief gules charged with two lozenges vert");
         dueTold("quarterly purpure and ermine a bordure vair a cross counterchanged",
                 "quarterly purpure and ermine a bordure vair a cross counterchanged",
                 "quarterly purpure and ermine a bordure vair a cross counterchanged");
-        dueTold("quarterly(quarterly(or)and(or)a fess or a fess or)and(quarterly(or)and(or)a fess or a fess or)a fess or",
+        dueTold("quarterly(quarterly(or)and(or)a fess or a fess or)and"
+                        + "(quarterly(or)and(or)a fess or a fess or)a fess or",
                 "quarterly ( quarterly ( or ) and ( or ) a fess or a fess or ) and "
                         + "( quarterly ( or ) and ( or ) a fess or a fess or ) a fess or",
                 "quarterly ( quarterly ( argent ) and ( argent ) a fess argent a fess argent ) and "
