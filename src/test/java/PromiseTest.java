@@ -465,9 +465,10 @@ public final class PromiseTest {
         due("fewer words", shields.same(1, 0), false);
         Due.read(shields, 0, "per pale or and vert a bend argent");
         due("another last word", shields.same(0, 1), false);
-        Due.read(shields, 0, "or");
-        Due.read(shields, 1, "or");
-        due("the same words where there were longer ones", shields.same(0, 1), true);
+        ToldShields shorter = Due.told("or a bend gules");
+        Due.read(shorter, 0, "vert");
+        Due.read(shorter, 1, "vert");
+        due("the same words where there were more before", shorter.same(0, 1), true);
         ToldShields fresh = Due.told("or");
         dueTwoShields("same", fresh::same);
     }
