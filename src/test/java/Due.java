@@ -2,17 +2,33 @@ import java.util.Objects;
 
 /** What the tests share: compares answers with those that are due, and ends with 1 if one was wrong. */
 final class Due {
+    static final Class<?> INDEX = IndexOutOfBoundsException.class;
+    static final Class<?> STATE = IllegalStateException.class;
+    static final Class<?> ARGUMENT = IllegalArgumentException.class;
+    /** Numbers that no shield has. */
+    static final int[] NO_SHIELDS = {-1, 3, Integer.MIN_VALUE, Integer.MAX_VALUE};
+    /** The sum of 2^x over all cells of a row. */
+    static final int ALL = (1 << 24) - 1;
+
+    private static String sentence = "";
+    private static int sentences = 0;
     private static int wrong = 0;
     private static int asked = 0;
 
     private Due() {
     }
 
+    /** Tells the words of the document that the answers which follow are due by. */
+    static void sentence(String where, String words) {
+        sentence = where + ", \"" + words + "\": ";
+        sentences++;
+    }
+
     static void due(String call, Object got, Object want) {
         asked++;
         if (!Objects.equals(got, want)) {
             wrong++;
-            System.out.println(call + " answered " + got + ", due is " + want);
+            System.out.println(sentence + call + " answered " + got + ", due is " + want);
         }
     }
 
@@ -37,6 +53,11 @@ final class Due {
         return shields.read(shield);
     }
 
+    /** That a new object answers this when it reads the text. */
+    static void dueRead(String text, int want) {
+        due("read of '" + text + "'", read(new ToldShields(), 0, text), want);
+    }
+
     /** A new object whose shield 0 is the one that the text tells. */
     static ToldShields told(String text) {
         ToldShields shields = new ToldShields();
@@ -53,8 +74,14 @@ final class Due {
         return page.toString();
     }
 
+    /** The sum of 2^x over the cells from one column to another. */
+    static int bits(int from, int to) {
+        return (1 << (to + 1)) - (1 << from);
+    }
+
     static void end() {
-        System.out.println(asked + " answers, " + wrong + " wrong");
+        String about = sentences == 0 ? "" : sentences + " sentences, ";
+        System.out.println(about + asked + " answers, " + wrong + " wrong");
         if (wrong != 0) {
             System.exit(1);
         }

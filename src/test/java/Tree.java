@@ -12,8 +12,22 @@ final class Tree {
     static final List<String> NUMBERS = List.of("a", "two", "three", "four", "five", "six");
     static final List<String> DIVISIONS = List.of("per pale", "per fess", "per bend", "quarterly");
     static final String COUNTERCHANGED = "counterchanged";
+    /** Every word that a shield can have. */
+    static final List<String> VOCABULARY = vocabulary();
 
     private Tree() {
+    }
+
+    private static List<String> vocabulary() {
+        List<String> words = new ArrayList<>(TINCTURES);
+        words.addAll(ORDINARIES);
+        words.addAll(NUMBERS);
+        for (String charge : CHARGES) {
+            words.add(charge);
+            words.add(charge + "s");
+        }
+        words.addAll(List.of("per", "quarterly", "and", "(", ")", "charged", "with", COUNTERCHANGED));
+        return List.copyOf(words);
     }
 
     static final class Shield {
