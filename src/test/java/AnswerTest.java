@@ -24,6 +24,7 @@ public final class AnswerTest {
         countItems();
         countCharges();
         countDepth();
+        countOfLastReading();
         sameWords();
         sameNotPicture();
         sameOfLastReading();
@@ -220,6 +221,27 @@ public final class AnswerTest {
         dueCount(3, "per pale (or) and (per pale or and (or))", 3);
     }
 
+    private static void countOfLastReading() {
+        Due.sentence("Promise 11", "Of a shield");
+        ToldShields shields = new ToldShields();
+        String[] texts = {
+            "per pale (per pale (or) and or) and (or two billets or)", "or a bend or", "or six billets or"};
+        int[][] counts = {{4, 1, 2, 3}, {1, 1, 0, 1}, {1, 1, 6, 1}};
+        for (int i = 0; i < 9; i++) {
+            int k = i % 3;
+            Due.read(shields, i / 3, texts[k]);
+            for (int what = 0; what < 4; what++) {
+                due("count " + what + " of '" + texts[k] + "'", shields.count(i / 3, what), counts[k][what]);
+            }
+        }
+        due("a fault", Due.read(shields, 1, texts[0] + " blue"), -19);
+        Due.read(shields, 1, "or");
+        due("shields after a fault", shields.count(1, 0), 1);
+        due("items after a fault", shields.count(1, 1), 0);
+        due("charges after a fault", shields.count(1, 2), 0);
+        due("depth after a fault", shields.count(1, 3), 1);
+    }
+
     private static void sameWords() {
         Due.sentence("Promise 12", "Whether two shields have the same words");
         ToldShields shields = Due.told("per pale (or)and gules");
@@ -230,6 +252,9 @@ public final class AnswerTest {
         due("another last word", shields.same(0, 1), false);
         Due.read(shields, 1, "per fess (or) and gules");
         due("another word before it", shields.same(0, 1), false);
+        Due.read(shields, 1, "or a bend gules");
+        Due.read(shields, 2, "vert a bend gules");
+        due("another first word", shields.same(1, 2), false);
         Due.read(shields, 1, "per pale (or) and gules a bend or");
         due("more words", shields.same(0, 1), false);
         due("fewer words", shields.same(1, 0), false);
@@ -354,7 +379,10 @@ public final class AnswerTest {
         String page = "per bend ( per bend ( or a pale or ) and ( or a pale or ) a pale or ) and "
                 + "( per bend ( or a pale or ) and ( or a pale or ) a pale or ) a pale or";
         duePage(text, page);
-        dueTurned(text, page.replace("or", "argent"));
+        // No text of 120 characters gives a longer page.
+        String turned = page.replace("or", "argent");
+        due("characters of the longest page", turned.length(), 188);
+        dueTurned(text, turned);
     }
 
     private static void length() {

@@ -25,6 +25,7 @@ public final class DrawingTest {
         perBend();
         plainParts();
         shieldsInParts();
+        shieldsInNarrowParts();
         itemsOverOneAnother();
         itemsOverParts();
         counterchanged();
@@ -45,6 +46,7 @@ public final class DrawingTest {
         fourCharges();
         fiveCharges();
         sixCharges();
+        wholeDivisions();
         chargedChief();
         chargedFess();
         chargedPale();
@@ -155,6 +157,21 @@ public final class DrawingTest {
         dueRows("per bend vert and " + inner, new int[] {0, 7, 8}, new int[] {0, bits(0, 6), 0});
         dueRows("per bend (or a fess gules) and (or a pale gules)", new int[] {0, 8, 15, 20},
                 new int[] {0, bits(8, 23), bits(8, 23), bits(8, 15)});
+    }
+
+    private static void shieldsInNarrowParts() {
+        Due.sentence("Terms", "x, y being counted within it");
+        String inner = "(or a pale gules)";
+        dueRows("per pale " + inner + " and vert", new int[] {0, 23}, new int[] {bits(4, 7), bits(4, 7)});
+        dueRows("per pale vert and " + inner, new int[] {0, 23}, new int[] {bits(16, 19), bits(16, 19)});
+        dueRows("per fess " + inner + " and vert", new int[] {0, 11, 12}, new int[] {bits(8, 15), bits(8, 15), 0});
+        dueRows("per fess vert and " + inner, new int[] {11, 12, 23}, new int[] {0, bits(8, 15), bits(8, 15)});
+        dueRows("quarterly " + inner + " and vert", new int[] {0, 11, 12, 23},
+                new int[] {bits(4, 7), bits(4, 7), bits(16, 19), bits(16, 19)});
+        dueRows("quarterly vert and " + inner, new int[] {0, 11, 12, 23},
+                new int[] {bits(16, 19), bits(16, 19), bits(4, 7), bits(4, 7)});
+        dueRows("per pale vert and (per pale vert and " + inner + ")", new int[] {0, 23},
+                new int[] {bits(20, 21), bits(20, 21)});
     }
 
     private static void itemsOverOneAnother() {
@@ -424,6 +441,17 @@ public final class DrawingTest {
                 "......", "......", ".#..#.", ".#..#.", "..##..", "..##..");
         dueDrawing(BROAD, "or six roundels gules",
                 ".##..##..##.", ".##..##..##.", ".####..####.", ".####..####.", "...######...", "...######...");
+    }
+
+    private static void wholeDivisions() {
+        Due.sentence("Terms", "all divisions are whole");
+        // Five boxes in 24 cells begin at 0, 4, 9, 14 and 19.
+        int five = bits(1, 2) + bits(5, 7) + bits(10, 12) + bits(15, 17) + bits(20, 22);
+        dueRows("vert a chief or charged with five billets gules", new int[] {0, 1, 6, 7},
+                new int[] {0, five, five, 0});
+        int one = bits(10, 13);
+        dueRows("vert a pale or charged with five billets gules", new int[] {0, 3, 4, 5, 7, 8, 9, 10, 19, 20, 22, 23},
+                new int[] {one, one, 0, one, one, 0, 0, one, 0, one, one, 0});
     }
 
     private static void chargedChief() {
