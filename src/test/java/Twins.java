@@ -39,7 +39,7 @@ final class Twins {
         }
         calls++;
         Object want = answer(MODEL.get(call), model, arguments);
-        Object got = answer(PROGRAM.get(call), program, arguments);
+        Object got = answer(program, call, arguments);
         Due.due(name + ", call " + calls + ", " + call + Arrays.toString(arguments), got, want);
     }
 
@@ -54,6 +54,11 @@ final class Twins {
         for (int p = -1; p <= model.length(); p++) {
             ask("charAt", p);
         }
+    }
+
+    /** What an object of the program answers to a call told by its name. */
+    static Object answer(ToldShields program, String call, int... arguments) {
+        return answer(PROGRAM.get(call), program, arguments);
     }
 
     private static Object answer(Method method, Object object, int[] arguments) {
